@@ -432,7 +432,7 @@ public final class SignSolids {
       readToken();
       int[] numbers = new int[MOST_NUMBERS];
       for (int i = 0; i < MOST_NUMBERS && i < numberCount(kind); i++) {
-        // No corner of a box that it ends at may lie below the one that it begins at.
+        // A box may not end below where it begins.
         int least = kind == BOX && i >= 3 ? numbers[i - 3] : leastNumber(kind, i);
         numbers[i] = readNumber(least, BOUND);
       }

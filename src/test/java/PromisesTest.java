@@ -442,6 +442,9 @@ public final class PromisesTest {
     due("15 ring", s.slice(3, 0, 2), 1);
     due("15 pieces do not hang together by z", s.slice(4, 0, 2), 2);
     due("15 they do in the next", s.slice(4, 1, 2), 1);
+    SignSolids ends = Check.with("box 0 -7 -7 0 -7 -7", "box 7 7 7 7 7 7");
+    due("15 a piece in the first row", ends.slice(0, -7, 2), 1);
+    due("15 a piece in the last row", ends.slice(1, 7, 2), 1);
     due("15 z", s.slice(0, 8, 0), BAD);
     due("15 z below", s.slice(0, -8, 0), BAD);
     due("15 what", s.slice(0, 0, 3), BAD);

@@ -35,6 +35,14 @@ public final class TextFaultsTest {
       faulty("ball 0 0 0 1" + c, 1, 12, c == ' ' || figure || letter);
     }
     faulty("bal", 1, 0);
+    for (String name : "xall xox xlane xr xnd xess xove xurn xlip xep".split(" ")) {
+      faulty(name, 1, 0);
+    }
+    for (String name : "ball box plane or and less move turn flip rep".split(" ")) {
+      faulty(name.substring(0, name.length() - 1) + "q", 1, 0);
+      faulty(name + "a", 1, 0);
+      faulty(name + "z", 1, 0);
+    }
     faulty("balls 0 0 0 1", 1, 0);
     faulty("orball 0 0 0 1 ball 0 0 0 1", 1, 0);
     faulty("turn turnip", 1, 5);
