@@ -2,7 +2,8 @@ import java.util.Random;
 
 /** Random runs of calls (always the same ones), answered by the program and by the naive model. */
 public final class ModelTest {
-  private static final int RUNS = 60, CALLS = 512;
+  // A step makes 24 calls at most: 21 feeds, end, body and fault.
+  private static final int RUNS = 60, CALLS = 512, CALLS_OF_A_STEP = 24;
   private static final String[] PIECES = {
     "ball", "box", "plane", "or", "and", "less", "move", "turn", "flip", "rep", "-", "0", "7", "20", "-20", "21",
     "-21", "100", " ", "  ", "x", "A", "ballx", "\t", "\u0000", "\u00ff", "5"
@@ -12,6 +13,7 @@ public final class ModelTest {
   private final int run;
   private final SignSolids real = new SignSolids();
   private final NaiveSolids naive = new NaiveSolids();
+  private int calls = 0;
 
   private ModelTest(int run) {
     this.run = run;
@@ -21,8 +23,8 @@ public final class ModelTest {
   public static void main(String[] args) {
     for (int run = 0; run < RUNS; run++) {
       ModelTest test = new ModelTest(run);
-      for (int i = 0; i < CALLS; ) {
-        i += test.step();
+      while (test.calls + CALLS_OF_A_STEP <= CALLS) {
+        test.step();
       }
     }
     Check.finish("ModelTest");
@@ -119,20 +121,18 @@ public final class ModelTest {
     return all.append(random.nextInt(4) == 0 ? PIECES[random.nextInt(PIECES.length)] : text(10)).toString();
   }
 
-  private int tell() {
+  private void tell() {
     String text = random.nextInt(8) == 0 ? chain() : text(1);
     while (text.length() > 160) text = text(1);
     if (random.nextInt(4) == 0) text = spoilt(text);
     byte[] bytes = text.getBytes(java.nio.charset.StandardCharsets.ISO_8859_1);
-    int calls = 3;
-    for (int at = 0; at < bytes.length; at += 8, calls++) {
+    for (int at = 0; at < bytes.length; at += 8) {
       feed(Check.eight(bytes, at));
     }
     int n = seldom() ? about(0, 160) : bytes.length;
     due("end(" + n + ")", real.end(n), naive.end(n));
     due("body() of '" + text + "'", real.body(), naive.body());
     due("fault() of '" + text + "'", real.fault(), naive.fault());
-    return calls;
   }
 
   private void feed(long v) {
@@ -140,18 +140,23 @@ public final class ModelTest {
   }
 
   private void due(String call, int got, int want) {
+    calls++;
     Check.due("run " + run + ": " + call, got, want);
   }
 
   // ---- calls
 
-  private int step() {
-    if (naive.told.isEmpty() && !seldom()) return tell();
+  private void step() {
+    if (naive.told.isEmpty() && !seldom()) {
+      tell();
+      return;
+    }
     int b = someBody();
     switch (random.nextInt(26)) {
       case 0:
       case 1:
-        return tell();
+        tell();
+        break;
       case 2:
         if (seldom()) feed(random.nextLong());
         break;
@@ -175,7 +180,6 @@ public final class ModelTest {
       default:
         points(b);
     }
-    return 1;
   }
 
   private void rules(int b) {

@@ -220,6 +220,18 @@ public final class PointsTest {
     parts("or box 0 0 0 0 0 0 box 1 0 1 1 0 1", 2, 0, 1, 0);
     parts("or box 0 0 0 0 0 0 box 0 1 1 0 1 1", 2, 0, 1, 0);
     parts("or box 0 0 0 0 0 0 box 1 1 1 1 1 1", 2, 0, 1, 0);
+    // From end to end of the room.
+    parts("box -7 0 0 7 0 0", 1, 0, 15, 0);
+    parts("box 0 -7 0 0 7 0", 1, 0, 15, 0);
+    parts("box 0 0 -7 0 0 7", 1, 0, 15, 0);
+    // Two arms that come together at their far ends alone, along each of the three ways and from both sides.
+    for (String turned : new String[] {"", "turn ", "turn turn "}) {
+      for (String flipped : new String[] {"", "flip "}) {
+        parts(turned + flipped + "or box 5 -3 0 5 3 0 or box 0 -3 0 5 -3 0 box 0 3 0 5 3 0", 1, 0, 7 + 5 + 5, 0);
+        parts(turned + flipped + "or box 5 0 -3 5 0 3 or box 0 0 -3 5 0 -3 box 0 0 3 5 0 3", 1, 0, 7 + 5 + 5, 0);
+        parts(turned + flipped + "or box 0 -3 0 5 -3 0 box 0 3 0 5 3 0", 2, 0, 6, 0);
+      }
+    }
     // The room has no way round: what stands at two ends of a row does not hang together.
     parts("or box -7 0 0 -7 0 0 box 7 0 0 7 0 0", 2, 0, 1, 0);
     parts("or box 7 0 0 7 0 0 box -7 1 0 -7 1 0", 2, 0, 1, 0);

@@ -91,6 +91,12 @@ public final class ShapesTest {
     due("no points between", s.slice(5, 6, 2), 0);
     due("nothing", s.slice(6, 0, 2), 0);
     due("all", s.slice(7, 7, 2), 1);
+    SignSolids arms = Check.with("or box -3 5 0 3 5 0 or box -3 0 0 -3 5 0 box 3 0 0 3 5 0",
+        "or box 5 -3 0 5 3 0 or box 0 -3 0 5 -3 0 box 0 3 0 5 3 0", "box -7 0 0 7 0 0", "box 0 -7 0 0 7 0");
+    due("two arms that come together at the greatest y", arms.slice(0, 0, 2), 1);
+    due("two arms that come together at the greatest x", arms.slice(1, 0, 2), 1);
+    due("from end to end in x", arms.slice(2, 0, 2), 1);
+    due("from end to end in y", arms.slice(3, 0, 2), 1);
   }
 
   private static void sliceBad() {
