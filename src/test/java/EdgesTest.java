@@ -10,6 +10,7 @@ public final class EdgesTest {
   private static final int[] PLACES = {-8, -7, 0, 7, 8, MIN, MAX};
   private static final int[] FEW_PLACES = {-8, -7, 0, 7, 8};
   private static final int[] STEPS = {-4, -3, 0, 3, 4};
+  private static final int[] ENDS = {MIN, 0, MAX};
   private static final int[] WHATS = {-1, 0, 1, 2, 3, 4, 5, MIN, MAX};
   private static final int[] SHEETS = {-1, 0, 1, 2, 3, 4, MIN, MAX};
   private static final int[] LANES = {-1, 0, 1, 2, 3, MIN, MAX};
@@ -84,6 +85,7 @@ public final class EdgesTest {
     all("rule", BODIES, far, far, far);
     int[] spanned = {0, 2, 8};
     all("span", spanned, FEW_PLACES, FEW_PLACES, FEW_PLACES, FEW_PLACES, FEW_PLACES, FEW_PLACES);
+    all("span", BODIES, ENDS, ENDS, ENDS, ENDS, ENDS, ENDS);
     all("parted", BODIES, WHATS);
   }
 
@@ -92,18 +94,18 @@ public final class EdgesTest {
     all("point", BODIES, new int[] {-1, 0, 1, 3374, 3375, MIN, MAX}, WHATS);
     all("skin", BODIES, WHATS);
     all("parts", BODIES, WHATS);
-    all("part", new int[] {-1, 0, 1, 7}, PLACES, PLACES, PLACES);
+    all("part", BODIES, PLACES, PLACES, PLACES);
     all("slice", BODIES, PLACES, WHATS);
     all("thin", BODIES, WHATS);
     all("overhang", BODIES, PLACES);
-    all("both", new int[] {-1, 0, 1, 3, 7}, new int[] {-1, 0, 1, 3, 7}, WHATS);
+    all("both", BODIES, BODIES, WHATS);
     all("ray", new int[] {0, 7}, FEW_PLACES, FEW_PLACES, FEW_PLACES, STEPS, STEPS, STEPS);
-    all("ray", BODIES, PLACES, new int[] {0}, new int[] {MIN, 7}, new int[] {MIN, 1, MAX}, new int[] {0}, new int[] {0});
+    all("ray", BODIES, ENDS, ENDS, ENDS, ENDS, ENDS, ENDS);
   }
 
   private void sheets() throws ReflectiveOperationException {
     all("lay", SHEETS, CELLS, new int[] {MIN, -8, 0, 7, MAX});
-    all("scan", new int[] {-1, 0, 7}, new int[] {-1, 0, 1, 2, 3, 4}, LANES, CELLS, new int[] {-1, 0, 1, 20, 21, MIN, MAX});
+    all("scan", BODIES, SHEETS, LANES, CELLS, new int[] {-1, 0, 1, 20, 21, MIN, MAX});
     all("sheet", SHEETS, LANES, CELLS);
   }
 
